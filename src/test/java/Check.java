@@ -26,8 +26,16 @@ final class Check {
     static void due(String what, String got, String want) {
         asked++;
         if (!got.equals(want)) {
-            fail(what + " answered\n" + got + "\ndue is\n" + want);
+            int same = 0;
+            while (same < got.length() && same < want.length() && got.charAt(same) == want.charAt(same)) {
+                same++;
+            }
+            fail(what + " answered\n.." + part(got, same) + "\ndue is\n.." + part(want, same));
         }
+    }
+
+    private static String part(String whole, int at) {
+        return whole.substring(Math.max(0, at - 100), Math.min(whole.length(), at + 200));
     }
 
     static void holds(String what, boolean so) {
