@@ -26,18 +26,18 @@ public final class TensorForge {
     private int count;
 
     public TensorForge() {
-        machine = new Machine();
-        latest = new Run(machine);
-        text = new Text();
-        assembler = new Assembler(text);
-        reader = new NetworkReader(text);
-        compiler = new Compiler();
-        printed = new Line();
         net = new Network();
         spareNet = new Network();
         words = new long[MOST_WORDS];
         spareWords = new long[MOST_WORDS];
         count = 0;
+        machine = new Machine();
+        latest = new Run(machine);
+        text = new Text();
+        assembler = new Assembler(text);
+        reader = new NetworkReader(text, spareNet);
+        compiler = new Compiler(spareWords);
+        printed = new Line();
     }
 
     public void side(int t) throws IllegalArgumentException {
@@ -590,6 +590,14 @@ public final class TensorForge {
         private final byte[] results;
         private final Reaches probe;
         int side;
+        // The fields of the instruction that is done.
+        private int address;
+        private int rows;
+        private int columns;
+        private int a;
+        private int b;
+        private int stride;
+        private int n;
 
         Machine() {
             memory = new byte[Reaches.SIZES[Reaches.MEMORY]];
@@ -686,135 +694,111 @@ public final class TensorForge {
          * once, as what else is under way can't touch the same places without a race.
          */
         void perform(long word) {
+            decode(word);
             switch (Words.get(word, Words.KIND)) {
                 case Words.LOAD_CELLS:
-                    loadBytes(word, cells);
+                    loadBytes(cells);
                     break;
                 case Words.LOAD_WEIGHTS:
-                    loadBytes(word, weights);
+                    loadBytes(weights);
                     break;
                 case Words.CLEAR_CELLS:
-                    clearCells(word);
+                    clearCells();
                     break;
                 case Words.LOAD_SUMS:
-                    loadSums(word);
+                    loadSums();
                     break;
                 case Words.MULTIPLY:
-                    multiply(word);
+                    multiply();
                     break;
                 case Words.COMBINE:
-                    combine(word);
+                    combine();
                     break;
                 case Words.NARROW:
-                    narrow(word);
+                    narrow();
                     break;
                 case Words.STORE:
-                    store(word);
+                    store();
                     break;
                 default:
                     break;
             }
         }
 
-        private void loadBytes(long word, byte[] buffer) {
-            int rows = Words.get(word, Words.ROWS);
-            int columns = Words.get(word, Words.COLUMNS);
-            int from = Words.get(word, Words.ADDRESS);
-            int stride = Words.get(word, Words.STRIDE);
-            int to = Words.get(word, Words.A);
+        private void decode(long word) {
+            address = Words.get(word, Words.ADDRESS);
+            rows = Words.get(word, Words.ROWS);
+            columns = Words.get(word, Words.COLUMNS);
+            a = Words.get(word, Words.A);
+            b = Words.get(word, Words.B);
+            stride = Words.get(word, Words.STRIDE);
+            n = Words.get(word, Words.N);
+        }
+
+        private void loadBytes(byte[] buffer) {
             for (int r = 0; r < rows; r++) {
                 for (int c = 0; c < columns; c++) {
-                    buffer[to + r * side + c] = memory[from + r * stride + c];
+                    buffer[a + r * side + c] = memory[address + r * stride + c];
                 }
             }
         }
 
-        private void clearCells(long word) {
-            int rows = Words.get(word, Words.ROWS);
-            int columns = Words.get(word, Words.COLUMNS);
-            int to = Words.get(word, Words.A);
+        private void clearCells() {
             for (int r = 0; r < rows; r++) {
                 for (int c = 0; c < columns; c++) {
-                    cells[to + r * side + c] = 0;
+                    cells[a + r * side + c] = 0;
                 }
             }
         }
 
-        private void loadSums(long word) {
-            int rows = Words.get(word, Words.ROWS);
-            int columns = Words.get(word, Words.COLUMNS);
-            int from = Words.get(word, Words.ADDRESS);
-            int stride = Words.get(word, Words.STRIDE);
-            int to = Words.get(word, Words.A);
+        private void loadSums() {
             for (int r = 0; r < rows; r++) {
                 for (int c = 0; c < columns; c++) {
-                    sums[to + r * side + c] = intAt(memory, from + r * stride + 4 * c);
+                    sums[a + r * side + c] = intAt(memory, address + r * stride + 4 * c);
                 }
             }
         }
 
-        private void multiply(long word) {
-            int rows = Words.get(word, Words.ROWS);
-            int columns = Words.get(word, Words.COLUMNS);
-            int cellsAt = Words.get(word, Words.A);
-            int weightsAt = Words.get(word, Words.STRIDE);
-            int sumsAt = Words.get(word, Words.B);
-            int n = Words.get(word, Words.N);
+        private void multiply() {
             int depth = n / 2;
             for (int r = 0; r < rows; r++) {
                 for (int c = 0; c < columns; c++) {
-                    int at = sumsAt + r * side + c;
+                    int at = b + r * side + c;
                     int sum = (n & 1) == 1 ? sums[at] : 0;
                     for (int k = 0; k < depth; k++) {
-                        sum += cells[cellsAt + r * side + k] * weights[weightsAt + k * side + c];
+                        sum += cells[a + r * side + k] * weights[stride + k * side + c];
                     }
                     sums[at] = sum;
                 }
             }
         }
 
-        private void combine(long word) {
-            int rows = Words.get(word, Words.ROWS);
-            int columns = Words.get(word, Words.COLUMNS);
-            int from = Words.get(word, Words.A);
-            int to = Words.get(word, Words.B);
-            int n = Words.get(word, Words.N);
+        private void combine() {
             for (int r = 0; r < rows; r++) {
                 for (int c = 0; c < columns; c++) {
-                    int further = r * side + c;
-                    int cell = cells[from + further];
+                    int at = b + r * side + c;
+                    int cell = cells[a + r * side + c];
                     if (n == 1) {
-                        cell += sums[to + further];
-                    } else if (n == 2) {
-                        cell = Math.max(cell, sums[to + further]);
+                        sums[at] += cell;
+                    } else {
+                        sums[at] = n == 2 ? Math.max(sums[at], cell) : cell;
                     }
-                    sums[to + further] = cell;
                 }
             }
         }
 
-        private void narrow(long word) {
-            int rows = Words.get(word, Words.ROWS);
-            int columns = Words.get(word, Words.COLUMNS);
-            int from = Words.get(word, Words.A);
-            int to = Words.get(word, Words.B);
-            int n = Words.get(word, Words.N);
+        private void narrow() {
             for (int r = 0; r < rows; r++) {
                 for (int c = 0; c < columns; c++) {
-                    results[to + r * side + c] = narrowed(sums[from + r * side + c], n);
+                    results[b + r * side + c] = narrowed(sums[a + r * side + c], n);
                 }
             }
         }
 
-        private void store(long word) {
-            int rows = Words.get(word, Words.ROWS);
-            int columns = Words.get(word, Words.COLUMNS);
-            int from = Words.get(word, Words.A);
-            int to = Words.get(word, Words.ADDRESS);
-            int stride = Words.get(word, Words.STRIDE);
+        private void store() {
             for (int r = 0; r < rows; r++) {
                 for (int c = 0; c < columns; c++) {
-                    memory[to + r * stride + c] = results[from + r * side + c];
+                    memory[address + r * stride + c] = results[a + r * side + c];
                 }
             }
         }
@@ -848,6 +832,8 @@ public final class TensorForge {
         private static final int WORKED = 3;
         // Tokens of four sorts from here on: pushed by unit 0 behind, 1 before, 1 behind, 2 before.
         private static final int TOKENS = 6;
+        // Far behind the end of any run.
+        private static final int LAST_CYCLE = 2000000000;
 
         private final Machine machine;
         final int[] told;
@@ -900,7 +886,7 @@ public final class TensorForge {
                 }
                 cycle = soonest;
             }
-            endUpTo(Integer.MAX_VALUE);
+            endUpTo(LAST_CYCLE);
         }
 
         private void prepare(long[] program, int length) {
@@ -1494,7 +1480,7 @@ public final class TensorForge {
         }
 
         /** Sets the cells by the layer's definition, each at once, as parameters may lie among them. */
-        void settle(byte[] memory, Layer first, Layer second) {
+        void fillCells(byte[] memory, Layer first, Layer second) {
             for (int y = 0; y < height; y++) {
                 for (int x = 0; x < width; x++) {
                     for (int c = 0; c < channels; c++) {
@@ -1626,7 +1612,7 @@ public final class TensorForge {
             for (int k = 1; k < tensors; k++) {
                 Layer layer = layers[k];
                 if (has(layer.one) && has(layer.two)) {
-                    layer.settle(memory, layers[layer.one], layers[layer.two]);
+                    layer.fillCells(memory, layers[layer.one], layers[layer.two]);
                 }
             }
         }
@@ -1701,8 +1687,9 @@ public final class TensorForge {
         private int needed;
         private int seen;
 
-        NetworkReader(Text text) {
+        NetworkReader(Text text, Network net) {
             this.text = text;
+            this.net = net;
             nameFrom = new int[Network.MOST_TENSORS];
             nameSize = new int[Network.MOST_TENSORS];
             lineNameFrom = 0;
@@ -1930,7 +1917,8 @@ public final class TensorForge {
         private int block;
         private int depth;
 
-        Compiler() {
+        Compiler(long[] words) {
+            this.words = words;
             made = 0;
             side = Machine.LEAST_SIDE;
         }
