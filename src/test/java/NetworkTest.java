@@ -17,6 +17,7 @@ public final class NetworkTest {
         names();
         listings();
         places();
+        justBeyond();
         Check.finish();
     }
 
@@ -413,5 +414,57 @@ public final class NetworkTest {
         x.pool(0, 11, 1);
         Check.refuses("no room", UNSUPPORTED, () -> x.pool(1, 11, 1));
         Check.due("place", x.place(), 2048);
+    }
+
+    /** Tensors that end at 2047 to 2050, by layers and by place(). */
+    private static void justBeyond() {
+        int[] met = new int[8];
+        for (int height = 20; height <= 63; height++) {
+            for (int width = 10; width <= 63 && height * width <= 2048; width++) {
+                for (int kernel : new int[] {11, 12, 13, 21, 22, 23, 31, 32, 33}) {
+                    for (int step = 1; step <= 3; step++) {
+                        int size = height * width;
+                        int more = ((height - kernel / 10) / step + 1) * ((width - kernel % 10) / step + 1);
+                        if (Math.abs(size + more - 2048) <= 2) {
+                            met[endOfLayer(height, width, kernel, step, size + more)]++;
+                        }
+                        if (Math.abs(3 * size + more - 2048) <= 2 && 2 * size + 2 * more <= 2048) {
+                            met[4 + endOfPlace(height, width, kernel, step, 3 * size + more)]++;
+                        }
+                    }
+                }
+            }
+        }
+        for (int k = 0; k < 8; k++) {
+            Check.holds("each end was met", k % 4 == 0 || met[k] > 0);
+        }
+    }
+
+    private static int endOfLayer(int height, int width, int kernel, int step, int due) {
+        TensorForge x = new TensorForge();
+        x.input(height, width, 1);
+        if (due > 2048) {
+            Check.refuses("a layer that ends at " + due, UNSUPPORTED, () -> x.pool(0, kernel, step));
+            return due == 2049 ? 1 : 0;
+        }
+        Check.due("a layer that ends at " + due, x.pool(0, kernel, step), 1);
+        return due == 2048 ? 2 : 3;
+    }
+
+    private static int endOfPlace(int height, int width, int kernel, int step, int due) {
+        TensorForge x = new TensorForge();
+        x.input(height, width, 1);
+        x.pool(0, 11, 1);
+        x.pool(1, 11, 1);
+        Check.due("place", x.place(), 2 * height * width);
+        x.pool(0, kernel, step);
+        x.pool(1, kernel, step);
+        if (due > 2048) {
+            Check.refusesAndKeeps("places up to " + due, x, UNSUPPORTED, () -> x.place());
+            return due == 2049 ? 1 : 0;
+        }
+        Check.due("places up to " + due, x.place(), due);
+        formed(x, 4, x.form(3, 0), x.form(3, 1), 1, 0);
+        return due == 2048 ? 2 : 3;
     }
 }

@@ -169,6 +169,10 @@ public final class RunTest {
                 + "multiply by 1 x 1 n 3 pop before");
         Check.due("run", x.run(), 1);
         Check.due("wrapped", x.look(3, 0), Integer.MIN_VALUE);
+        x.memory(4092, 0x81828384);
+        Check.assemble(x, "sums at 4092 by 3 x 1 a 250");
+        Check.due("run", x.run(), 1);
+        Check.due("the last four bytes", x.look(3, 254), 0x81828384);
         Check.assemble(x, "sums by 1 x 1 push behind\ncombine by 1 x 1 n 1 pop before");
         Check.due("run", x.run(), 1);
         Check.due("wrapped", x.look(3, 0), Integer.MIN_VALUE);
