@@ -16,6 +16,7 @@ public final class RunTest {
         tokens();
         races();
         stuck();
+        longest();
         laterChanges();
         Check.finish();
     }
@@ -307,6 +308,21 @@ public final class RunTest {
         Check.due("under behind", x.under(0, 2), NONE);
         Check.due("under of none", x.under(1, 0), NONE);
         Check.due("the least", ran(2, "wait push behind\nwait n 1 pop behind\nwait pop behind", 4).stopped(1), 1);
+    }
+
+    /** 600 words of one unit, the last of which ends last of all; and then one that is stuck. */
+    private static void longest() {
+        TensorForge x = new TensorForge();
+        for (int i = 0; i < 600; i++) {
+            x.word(i, 4L | 63L << 20 | 2L << 26 | (i == 599 ? 0x80 : 0));
+        }
+        Check.due("run", x.run(), 1);
+        told(x, 1, NONE, 600 * 504, 600 * 504, 0, 0, 1, 0, 0, 0);
+        times(x, 599, 0, 599 * 504, 600 * 504);
+        Check.due("under", x.under(0, 600 * 504 - 1), 599);
+        x.word(599, 9L | 1L << 59 | 1L << 4);
+        Check.due("run", x.run(), 4);
+        told(x, 4, 599, 599 * 504, 599 * 504, 0, 0, 0, 0, 0, 0);
     }
 
     private static void laterChanges() {
