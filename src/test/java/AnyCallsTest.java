@@ -29,18 +29,18 @@ public final class AnyCallsTest {
         Random random = new Random(11);
         int thrown = 0;
         for (int turn = 0; turn < 400; turn++) {
-            TensorForge x = new TensorForge();
-            for (int k = 0; k < 512; k++) {
+            Forge x = new Forge();
+            while (x.changes() < 300) {
                 if (random.nextInt(20) == 0) {
                     Check.write(x, TEXTS[random.nextInt(TEXTS.length)]);
                     continue;
                 }
                 Method call = open.get(random.nextInt(open.size()));
                 Object[] given = given(random, call, x);
-                boolean look = random.nextInt(20) == 0;
+                boolean look = random.nextInt(40) == 0;
                 String before = look ? Check.all(x) : "";
                 try {
-                    call.invoke(x, given);
+                    Forge.class.getDeclaredMethod(call.getName(), call.getParameterTypes()).invoke(x, given);
                 } catch (InvocationTargetException e) {
                     thrown++;
                     Throwable cause = e.getCause();
@@ -48,7 +48,7 @@ public final class AnyCallsTest {
                     Check.holds(told + " may throw " + cause,
                             Arrays.asList(call.getExceptionTypes()).contains(cause.getClass()));
                     Check.holds(told + " throws " + cause + " by a throw statement of its own",
-                            cause.getStackTrace()[0].getClassName().equals("TensorForge"));
+                            cause.getStackTrace()[0].getClassName().startsWith("TensorForge"));
                     if (look) {
                         Check.due("all behind " + told, Check.all(x), before);
                     }
@@ -59,7 +59,7 @@ public final class AnyCallsTest {
         Check.finish();
     }
 
-    private static Object[] given(Random random, Method call, TensorForge x) {
+    private static Object[] given(Random random, Method call, Forge x) {
         Class<?>[] types = call.getParameterTypes();
         Object[] given = new Object[types.length];
         for (int k = 0; k < types.length; k++) {

@@ -18,7 +18,7 @@ public final class CompileTest {
         reckonByHand();
         Random random = new Random(7);
         int[] met = new int[3];
-        for (int turn = 0; turn < 4000; turn++) {
+        for (int turn = 0; turn < 1500; turn++) {
             met[one(random, turn)]++;
         }
         System.out.println("programs " + met[0] + ", no room " + met[1] + ", parameters among tensors " + met[2]);
@@ -27,7 +27,7 @@ public final class CompileTest {
     }
 
     private static void least() {
-        TensorForge x = new TensorForge();
+        Forge x = new Forge();
         x.word(0, 5);
         Check.due("without layers", x.compile(), 0);
         Check.due("without layers", x.length(), 0);
@@ -41,7 +41,7 @@ public final class CompileTest {
     }
 
     private static void convolutionByHand() {
-        TensorForge x = new TensorForge();
+        Forge x = new Forge();
         x.input(1, 2, 1);
         x.convolution(0, 13, 3, 11, 18, 100);
         x.compile();
@@ -75,7 +75,7 @@ public final class CompileTest {
     }
 
     private static void additionByHand() {
-        TensorForge x = new TensorForge();
+        Forge x = new Forge();
         x.input(5, 13, 3);
         x.pool(0, 11, 1);
         x.input(5, 13, 3);
@@ -111,7 +111,7 @@ public final class CompileTest {
     }
 
     private static void poolByHand() {
-        TensorForge x = new TensorForge();
+        Forge x = new Forge();
         x.side(3);
         x.input(3, 4, 4);
         x.pool(0, 21, 3);
@@ -131,7 +131,7 @@ public final class CompileTest {
 
     /** Of two places the first meets the column ahead of the tensor and the second the one behind it. */
     private static void skippedColumn() {
-        TensorForge x = new TensorForge();
+        Forge x = new Forge();
         x.input(2, 1, 1);
         x.convolution(0, 21, 1, 21, 0, 2048);
         Check.due("width", x.form(1, 1), 2);
@@ -141,7 +141,7 @@ public final class CompileTest {
     }
 
     private static void noRoom() {
-        TensorForge x = new TensorForge();
+        Forge x = new Forge();
         x.input(63, 16, 1);
         x.pool(0, 33, 1);
         Check.refusesAndKeeps("no room", x, UnsupportedOperationException.class, () -> x.compile());
@@ -171,7 +171,7 @@ public final class CompileTest {
         for (int rows = 1; rows <= 63; rows++) {
             for (int kernel : new int[] {11, 12, 13, 22, 23, 33}) {
                 for (int more = 0; more < 10; more++) {
-                    TensorForge x = new TensorForge();
+                    Forge x = new Forge();
                     x.input(rows, 3, 1);
                     if (kernel / 10 > rows) {
                         continue;
@@ -196,12 +196,12 @@ public final class CompileTest {
         Check.holds("both were met", fits > 0 && tooLong > 0);
     }
 
-    private static int lengthDue(TensorForge x) {
+    private static int lengthDue(Forge x) {
         return new CompileTest(x, 2).written().size();
     }
 
     private static void reckonByHand() {
-        TensorForge x = new TensorForge();
+        Forge x = new Forge();
         x.input(1, 3, 1);
         x.memory(0, 0x00F00A05);
         x.convolution(0, 13, 1, 11, 1, 2048);
@@ -218,7 +218,7 @@ public final class CompileTest {
         }
         Check.due("behind the last", x.look(0, 3 + due.length), 0);
         // Parameters among the cells of the result: each cell is written at once.
-        TensorForge y = new TensorForge();
+        Forge y = new Forge();
         y.input(1, 4, 1);
         y.memory(0, 0x01010101);
         y.convolution(0, 11, 1, 10, 0, 5);
@@ -233,11 +233,11 @@ public final class CompileTest {
         Check.due("cell 3", y.look(0, 7), 127);
     }
 
-    private final TensorForge x;
+    private final Forge x;
     private final int side;
     private final ArrayList<String> lines = new ArrayList<>();
 
-    private CompileTest(TensorForge x, int side) {
+    private CompileTest(Forge x, int side) {
         this.x = x;
         this.side = side;
     }
@@ -459,7 +459,7 @@ public final class CompileTest {
         return n >= 16 && value < 0 ? 0 : (int) value;
     }
 
-    private static void anyLayer(TensorForge x, Random random, boolean among) {
+    private static void anyLayer(Forge x, Random random, boolean among) {
         int tensor = random.nextInt(3) == 0 ? random.nextInt(Check.tensors(x)) : Check.tensors(x) - 1;
         int kernel = 10 * (1 + random.nextInt(3)) + 1 + random.nextInt(3);
         int shift = random.nextInt(3) == 0 ? random.nextInt(32) : random.nextInt(4) + 16 * random.nextInt(2);
@@ -479,33 +479,67 @@ public final class CompileTest {
         }
     }
 
-    private static int[] memory(TensorForge x) {
+    /** Fills as much of the memory as there are calls for: the input and the parameters first. */
+    private static int[] fill(Forge x, Random random) {
         int[] memory = new int[4096];
-        for (int k = 0; k < 4096; k++) {
-            memory[k] = x.look(0, k);
+        boolean[] filled = new boolean[1024];
+        int left = 300;
+        int inputs = (x.form(0, 0) * x.form(0, 1) * x.form(0, 2) + 3) / 4;
+        for (int k = 0; k < Math.min(inputs, 150); k++, left--) {
+            fillAt(x, random, memory, filled, inputs <= 150 ? k : random.nextInt(inputs));
+        }
+        for (int k = 0; left > 0; k++, left--) {
+            int layer = random.nextInt(Check.tensors(x));
+            int at = layer == 0 ? random.nextInt(4096) : parameter(x, layer, random);
+            fillAt(x, random, memory, filled, at / 4);
         }
         return memory;
     }
 
-    private static void fill(TensorForge x, int[] memory) {
-        for (int k = 0; k < 4096; k += 4) {
-            x.memory(k, memory[k] & 255 | (memory[k + 1] & 255) << 8 | (memory[k + 2] & 255) << 16 | memory[k + 3] << 24);
+    private static int parameter(Forge x, int layer, Random random) {
+        String[] tokens = Check.networkLine(x, layer).trim().split(" ");
+        if (!tokens[0].equals("conv")) {
+            return random.nextInt(4096);
+        }
+        int size = Integer.parseInt(tokens[3]) * Integer.parseInt(tokens[5]) * x.form(Integer.parseInt(tokens[1]), 2) + 4;
+        return Integer.parseInt(tokens[9]) + random.nextInt(size * x.form(layer, 2));
+    }
+
+    private static void fillAt(Forge x, Random random, int[] memory, boolean[] filled, int k) {
+        if (filled[k]) {
+            return;
+        }
+        filled[k] = true;
+        int v = random.nextBoolean() ? random.nextInt() : random.nextInt(7) - 3;
+        x.memory(4 * k, v);
+        for (int j = 0; j < 4; j++) {
+            memory[4 * k + j] = (byte) (v >> 8 * j);
         }
     }
 
-    private static void same(String what, int[] got, int[] due, int from, int to) {
-        for (int k = from; k < to; k++) {
-            if (got[k] != due[k]) {
-                Check.due(what + ", byte " + k, got[k], due[k]);
+    /** Compares the memory where tensors are, and some more of it. */
+    private static void same(String what, Forge x, int[] due, Random random) {
+        boolean[] asked = new boolean[4096];
+        for (int k = 1; k < Check.tensors(x); k++) {
+            int size = x.form(k, 0) * x.form(k, 1) * x.form(k, 2);
+            for (int j = 0; j <= size; j += size > 400 ? 1 + random.nextInt(5) : 1) {
+                asked[x.form(k, 3) + j] = true;
             }
         }
-        Check.holds(what, true);
+        for (int k = 0; k < 60; k++) {
+            asked[random.nextInt(4096)] = true;
+        }
+        for (int k = 0; k < 4096; k++) {
+            if (asked[k]) {
+                Check.due(what + ", byte " + k, x.look(0, k), due[k]);
+            }
+        }
     }
 
     private static int one(Random random, int turn) {
         int side = 2 + random.nextInt(7);
         boolean among = turn % 8 == 0;
-        TensorForge x = new TensorForge();
+        Forge x = new Forge();
         x.side(side);
         int wide = random.nextInt(5) == 0 ? 63 : 9;
         try {
@@ -516,10 +550,6 @@ public final class CompileTest {
         for (int k = random.nextInt(random.nextInt(4) == 0 ? 12 : 4); k >= 0; k--) {
             anyLayer(x, random, among);
         }
-        int[] before = new int[4096];
-        for (int k = 0; k < 4096; k++) {
-            before[k] = random.nextBoolean() ? (byte) random.nextInt() : random.nextInt(7) - 3;
-        }
         // Places anew, of which a model is here too.
         if (turn % 3 == 0) {
             placeDue(x);
@@ -527,36 +557,34 @@ public final class CompileTest {
                 anyLayer(x, random, among);
             }
         }
+        int[] due = fill(x, random);
+        Forge y = x.twin();
         CompileTest model = new CompileTest(x, side);
-        fill(x, before);
-        int[] due = before.clone();
         model.define(due);
         x.reckon();
-        int[] reckoned = memory(x);
-        same("reckon", reckoned, due, 0, 4096);
+        same("reckon", x, due, random);
         ArrayList<String> lines = model.written();
         if (lines.size() > 600) {
-            Check.refuses("compile without room", UnsupportedOperationException.class, () -> x.compile());
+            Check.refuses("compile without room", UnsupportedOperationException.class, () -> y.compile());
             return 1;
         }
-        Check.due("compile", x.compile(), lines.size());
-        Check.due("program of " + Check.network(x), Check.program(x), String.join("", lines));
-        fill(x, before);
+        Check.due("compile", y.compile(), lines.size());
         if (among) {
             // A STORE may race with the load of parameters.
-            Check.holds("done, or a race", x.run() % 2 == 1);
+            Check.holds("done, or a race", y.run() % 2 == 1);
             return 2;
         }
-        Check.due("run", x.run(), 1);
+        Check.due("program of " + Check.network(y), Check.program(y), String.join("", lines));
+        Check.due("run", y.run(), 1);
         for (int what = 6; what < 10; what++) {
-            Check.due("tokens left", x.stopped(what), 0);
+            Check.due("tokens left", y.stopped(what), 0);
         }
-        same("what the program leaves", memory(x), due, 0, 4096);
+        same("what the program leaves", y, due, random);
         return 0;
     }
 
     /** Looks place by place for the least one. */
-    private static void placeDue(TensorForge x) {
+    private static void placeDue(Forge x) {
         int tensors = Check.tensors(x);
         int[] size = new int[tensors];
         int[] spot = new int[tensors];

@@ -8,6 +8,9 @@ import java.util.Random;
 public final class ModelTest {
     private static final int NONE = TensorForge.NONE;
     private static final int[] SIZES = Check.SIZES;
+    // Not the whole memory, which takes more calls to fill than an object has.
+    private static final int MOST_ADDRESS = 400;
+    private static final int MOST_CYCLES = 60;
 
     private final int side;
     private final int[][] state = new int[5][];
@@ -337,7 +340,7 @@ public final class ModelTest {
         if (kind != 9) {
             word |= (long) (1 + upTo(random, 5)) << 20 | (long) (1 + upTo(random, t - 1)) << 26;
             boolean hasAddress = kind == 1 || kind == 2 || kind == 4 || kind == 8;
-            word |= hasAddress ? (long) upTo(random, 8 * apart) << 8 : 0;
+            word |= hasAddress ? (long) upTo(random, MOST_ADDRESS) << 8 : 0;
             word |= (long) upTo(random, apart) << 31;
             word |= kind == 5 || kind == 6 || kind == 7 ? (long) upTo(random, apart) << 40 : 0;
             word |= hasAddress ? (long) upTo(random, 10) << 49 : kind == 5 ? (long) upTo(random, apart) << 49 : 0;
@@ -352,7 +355,7 @@ public final class ModelTest {
         int wrong = 0;
         for (int turn = 0; turn < 60000; turn++) {
             int t = 2 + random.nextInt(7);
-            TensorForge x = new TensorForge();
+            Forge x = new Forge();
             x.side(t);
             long word = turn % 3 == 0 ? random.nextLong() : any(random, t, 511, turn % 3 == 1);
             if (turn % 2 == 0) {
@@ -368,10 +371,10 @@ public final class ModelTest {
     private static int one(Random random) {
         int t = 2 + random.nextInt(7);
         int apart = random.nextBoolean() ? 200 : 60;
-        TensorForge x = new TensorForge();
+        Forge x = new Forge();
         x.side(t);
         ModelTest model = new ModelTest(t);
-        for (int k = 0; k < 4096; k += 4) {
+        for (int k = 0; k < MOST_ADDRESS + 60; k += 4) {
             int v = random.nextInt();
             x.memory(k, v);
             for (int j = 0; j < 4; j++) {
@@ -406,7 +409,7 @@ public final class ModelTest {
         cycle = 0;
     }
 
-    private void compare(TensorForge x, long[] words, Random random) {
+    private void compare(Forge x, long[] words, Random random) {
         Check.due("why", x.stopped(0), why);
         Check.due("which", x.stopped(1), which);
         Check.due("cycle", x.stopped(2), cycle);
@@ -416,13 +419,7 @@ public final class ModelTest {
         for (int k = 0; k < 4; k++) {
             Check.due("tokens", x.stopped(6 + k), tokens[k]);
         }
-        for (int space = 0; space < 5; space++) {
-            for (int k = 0; k < SIZES[space]; k++) {
-                if (x.look(space, k) != state[space][k]) {
-                    Check.due("look(" + space + ", " + k + ")", x.look(space, k), state[space][k]);
-                }
-            }
-        }
+        compareState(x, words, random);
         if (why == 2) {
             Check.refuses("instruction", IllegalStateException.class, () -> x.instruction(0, 0));
             return;
@@ -432,7 +429,8 @@ public final class ModelTest {
             Check.due("began", x.instruction(i, 1), began[i]);
             Check.due("ended", x.instruction(i, 2), ended[i]);
         }
-        for (int at = 0; at < under.size(); at++) {
+        int apart = 1 + under.size() / MOST_CYCLES;
+        for (int at = random.nextInt(apart); at < under.size(); at += 1 + random.nextInt(2 * apart - 1)) {
             for (int unit = 0; unit < 3; unit++) {
                 Check.due("under(" + unit + ", " + at + ")", x.under(unit, at), under.get(at)[unit]);
                 Check.due("waits(" + unit + ", " + at + ")", x.waits(unit, at), waits.get(at)[unit]);
@@ -443,6 +441,31 @@ public final class ModelTest {
         for (int unit = 0; unit < 3; unit++) {
             Check.due("waits far behind", x.waits(unit, far), waits.get(last)[unit]);
             Check.due("under far behind", x.under(unit, far), NONE);
+        }
+    }
+
+    /** All places that the program touches, and some others. */
+    private void compareState(Forge x, long[] words, Random random) {
+        boolean[][] asked = new boolean[5][];
+        for (int space = 0; space < 5; space++) {
+            asked[space] = new boolean[SIZES[space]];
+            for (int k = 0; k < 10; k++) {
+                asked[space][random.nextInt(SIZES[space])] = true;
+            }
+        }
+        for (long word : words) {
+            for (int[] place : touched(word, side)) {
+                if (place[1] < SIZES[place[0]]) {
+                    asked[place[0]][place[1]] = true;
+                }
+            }
+        }
+        for (int space = 0; space < 5; space++) {
+            for (int k = 0; k < SIZES[space]; k++) {
+                if (asked[space][k]) {
+                    Check.due("look(" + space + ", " + k + ")", x.look(space, k), state[space][k]);
+                }
+            }
         }
     }
 }

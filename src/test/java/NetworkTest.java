@@ -21,7 +21,7 @@ public final class NetworkTest {
         Check.finish();
     }
 
-    private static void formed(TensorForge x, int tensor, int height, int width, int channels, int begin) {
+    private static void formed(Forge x, int tensor, int height, int width, int channels, int begin) {
         Check.due("height of " + tensor, x.form(tensor, 0), height);
         Check.due("width of " + tensor, x.form(tensor, 1), width);
         Check.due("channels of " + tensor, x.form(tensor, 2), channels);
@@ -29,7 +29,7 @@ public final class NetworkTest {
     }
 
     private static void input() {
-        TensorForge x = new TensorForge();
+        Forge x = new Forge();
         x.input(63, 32, 1);
         formed(x, 0, 63, 32, 1, 0);
         x.input(4, 8, 63);
@@ -56,7 +56,7 @@ public final class NetworkTest {
     }
 
     private static void convolution() {
-        TensorForge x = new TensorForge();
+        Forge x = new Forge();
         x.input(5, 8, 3);
         Check.due("first", x.convolution(0, 23, 4, 10, 0, 3000), 1);
         formed(x, 1, 4, 6, 4, 120);
@@ -74,7 +74,7 @@ public final class NetworkTest {
     }
 
     private static void wrongConvolutions() {
-        TensorForge x = new TensorForge();
+        Forge x = new Forge();
         x.input(2, 3, 2);
         int[] extremes = {Integer.MIN_VALUE, Integer.MAX_VALUE, -1, -11, 100, 1000};
         for (int tensor : new int[] {-1, 1, 11, 12, Integer.MIN_VALUE, Integer.MAX_VALUE}) {
@@ -142,7 +142,7 @@ public final class NetworkTest {
     }
 
     /** Whether a convolution of the input can be; leaves the network without it. */
-    private static void convolutionDue(TensorForge x, boolean fine, int tensor, int kernel, int outputs, int how,
+    private static void convolutionDue(Forge x, boolean fine, int tensor, int kernel, int outputs, int how,
             int shift, int address) {
         String call = "convolution(" + tensor + ", " + kernel + ", " + outputs + ", " + how + ", " + shift + ", "
                 + address + ")";
@@ -156,7 +156,7 @@ public final class NetworkTest {
     }
 
     private static void pool() {
-        TensorForge x = new TensorForge();
+        Forge x = new Forge();
         x.input(7, 9, 5);
         Check.due("first", x.pool(0, 32, 2), 1);
         formed(x, 1, 3, 4, 5, 315);
@@ -180,7 +180,7 @@ public final class NetworkTest {
     }
 
     private static void addition() {
-        TensorForge x = new TensorForge();
+        Forge x = new Forge();
         x.input(2, 3, 4);
         Check.due("of one and itself", x.addition(0, 0, 0), 1);
         formed(x, 1, 2, 3, 4, 24);
@@ -208,7 +208,7 @@ public final class NetworkTest {
     }
 
     private static void tenLayers() {
-        TensorForge x = new TensorForge();
+        Forge x = new Forge();
         for (int k = 1; k <= 10; k++) {
             Check.due("layer " + k, x.pool(k - 1, 11, 1), k);
             formed(x, k, 1, 1, 1, k);
@@ -224,7 +224,7 @@ public final class NetworkTest {
     }
 
     private static void texts() {
-        TensorForge x = new TensorForge();
+        Forge x = new Forge();
         Check.due("network", Check.network(x, "# a net\n\n  input 6 x 5 x 2 as picture # in\n"
                 + "conv picture by 3 x 3 outputs 4 at 2500 step 2 edge 1 shift 3 relu as first\n"
                 + "pool first step 3by 2x2 as second\n\nadd first 1 relu shift 4\n"
@@ -256,7 +256,7 @@ public final class NetworkTest {
     }
 
     private static void fault(String text, int line) {
-        TensorForge x = new TensorForge();
+        Forge x = new Forge();
         x.input(3, 4, 5);
         x.pool(0, 22, 1);
         x.place();
@@ -325,7 +325,7 @@ public final class NetworkTest {
             fault("input 2 x 2 x 2 as " + kept, 0);
             fault("input 2 x 2 x 2\nadd 0 0 as " + kept, 1);
         }
-        TensorForge x = new TensorForge();
+        Forge x = new Forge();
         for (String name : new String[] {"a", "abcdefgh", "cells", "pop", "before", "xx", "inputs", "number", "tensor",
             "name", "z", "conv".substring(0, 3), "output", "none", "n", "b"}) {
             Check.due("name " + name, Check.network(x, "input 2 x 2 x 2 as " + name + "\nadd " + name + " " + name
@@ -351,7 +351,7 @@ public final class NetworkTest {
     }
 
     private static void listings() {
-        TensorForge x = new TensorForge();
+        Forge x = new Forge();
         Check.due("network", Check.network(x, "input 63 x 10 x 1\nconv 0 at 4000 outputs 1 by 1 x 1"), NONE);
         String first = "input 63 x 10 x 1\n";
         String second = "conv 0 by 1 x 1 outputs 1 at 4000\n";
@@ -367,7 +367,7 @@ public final class NetworkTest {
     }
 
     private static void places() {
-        TensorForge x = new TensorForge();
+        Forge x = new Forge();
         x.input(4, 5, 1);
         Check.due("place of the input alone", x.place(), 20);
         x.pool(0, 11, 1);
@@ -441,7 +441,7 @@ public final class NetworkTest {
     }
 
     private static int endOfLayer(int height, int width, int kernel, int step, int due) {
-        TensorForge x = new TensorForge();
+        Forge x = new Forge();
         x.input(height, width, 1);
         if (due > 2048) {
             Check.refuses("a layer that ends at " + due, UNSUPPORTED, () -> x.pool(0, kernel, step));
@@ -452,7 +452,7 @@ public final class NetworkTest {
     }
 
     private static int endOfPlace(int height, int width, int kernel, int step, int due) {
-        TensorForge x = new TensorForge();
+        Forge x = new Forge();
         x.input(height, width, 1);
         x.pool(0, 11, 1);
         x.pool(1, 11, 1);

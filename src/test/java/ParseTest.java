@@ -127,7 +127,7 @@ public final class ParseTest {
                 words.add(word);
             }
         }
-        TensorForge x = new TensorForge();
+        Forge x = new Forge();
         x.word(0, 5);
         Check.due("assemble of\n" + whole + "\n", Check.assemble(x, whole), fault);
         Check.due("length", x.length(), fault == NONE ? words.size() : 1);
@@ -222,9 +222,9 @@ public final class ParseTest {
             text.append(line(random, head, parts));
         }
         String whole = change(random, text.toString());
-        TensorForge model = new TensorForge();
+        Forge model = new Forge();
         int fault = read(whole, model);
-        TensorForge x = new TensorForge();
+        Forge x = new Forge();
         x.input(2, 3, 4);
         x.addition(0, 0, 1);
         Check.due("network of\n" + whole + "\n", Check.network(x, whole), fault);
@@ -243,7 +243,7 @@ public final class ParseTest {
     }
 
     /** Reads a network by the calls. */
-    private static int read(String text, TensorForge x) {
+    private static int read(String text, Forge x) {
         Map<String, Integer> names = new HashMap<>();
         boolean begun = false;
         String[] lines = text.split("\n", -1);
@@ -264,7 +264,7 @@ public final class ParseTest {
         return begun ? NONE : lines.length;
     }
 
-    private static boolean readLine(List<String> tokens, TensorForge x, boolean begun, Map<String, Integer> names) {
+    private static boolean readLine(List<String> tokens, Forge x, boolean begun, Map<String, Integer> names) {
         String line = String.join(" ", tokens);
         if (!begun) {
             Matcher input = Pattern.compile("input ([0-9]+) x ([0-9]+) x ([0-9]+)( as ([a-z]+))?").matcher(line);

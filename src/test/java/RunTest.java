@@ -17,32 +17,33 @@ public final class RunTest {
         races();
         stuck();
         longest();
+        fullProgram();
         laterChanges();
         Check.finish();
     }
 
-    private static TensorForge ran(int side, String text, int why) {
-        TensorForge x = new TensorForge();
+    private static Forge ran(int side, String text, int why) {
+        Forge x = new Forge();
         x.side(side);
         Check.due("assemble of " + text, Check.assemble(x, text), NONE);
         Check.due("run of " + text, x.run(), why);
         return x;
     }
 
-    private static void told(TensorForge x, int... due) {
+    private static void told(Forge x, int... due) {
         for (int what = 0; what < due.length; what++) {
             Check.due("stopped(" + what + ")", x.stopped(what), due[what]);
         }
     }
 
-    private static void times(TensorForge x, int i, int unit, int began, int ended) {
+    private static void times(Forge x, int i, int unit, int began, int ended) {
         Check.due("unit of " + i, x.instruction(i, 0), unit);
         Check.due("begin of " + i, x.instruction(i, 1), began);
         Check.due("end of " + i, x.instruction(i, 2), ended);
     }
 
     private static void withoutRun() {
-        TensorForge x = new TensorForge();
+        Forge x = new Forge();
         x.word(0, 9);
         Check.due("stopped(0) without a run", x.stopped(0), 0);
         Check.refuses("stopped(-1)", ARGUMENT, () -> x.stopped(-1));
@@ -53,7 +54,7 @@ public final class RunTest {
     }
 
     private static void empty() {
-        TensorForge x = ran(2, "", 1);
+        Forge x = ran(2, "", 1);
         told(x, 1, NONE, 0, 0, 0, 0, 0, 0, 0, 0);
         Check.refuses("instruction of none", INDEX, () -> x.instruction(0, 0));
         Check.due("under of none", x.under(2, 0), NONE);
@@ -61,7 +62,7 @@ public final class RunTest {
     }
 
     private static void illegalOnes() {
-        TensorForge x = ran(2, "wait push behind\nclear by 1 x 1\nclear by 1 x 3\nwait n 3", 2);
+        Forge x = ran(2, "wait push behind\nclear by 1 x 1\nclear by 1 x 3\nwait n 3", 2);
         told(x, 2, 2, 0, 0, 0, 0, 0, 0, 0, 0);
         Check.refuses("instruction of an illegal run", STATE, () -> x.instruction(0, 0));
         Check.refuses("under of an illegal run", STATE, () -> x.under(0, 0));
@@ -84,7 +85,7 @@ public final class RunTest {
         Check.refuses("waits(-1, 0)", ARGUMENT, () -> x.waits(-1, 0));
         Check.refuses("waits(0, -1)", ARGUMENT, () -> x.waits(0, -1));
         // Nothing is done if one is illegal, not even by those ahead.
-        TensorForge y = new TensorForge();
+        Forge y = new Forge();
         y.memory(0, 5);
         Check.assemble(y, "cells by 1 x 1\ncells by 1 x 1 n 1");
         Check.due("run", y.run(), 2);
@@ -92,7 +93,7 @@ public final class RunTest {
     }
 
     private static void kinds() {
-        TensorForge x = new TensorForge();
+        Forge x = new Forge();
         x.side(3);
         for (int k = 0; k < 64; k += 4) {
             x.memory(k, k + 1 | k + 2 << 8 | k + 3 << 16 | k + 4 << 24);
@@ -145,9 +146,9 @@ public final class RunTest {
         int[] sums = {0, 1, -1, 2, -2, 3, -3, 127, 128, -128, -129, 255, 32767, -32768, 1 << 20,
             Integer.MAX_VALUE, Integer.MIN_VALUE, Integer.MAX_VALUE - 5, 4194303, -4194304, -4210689, 4178943};
         for (int sum : sums) {
-            TensorForge x = new TensorForge();
-            x.memory(0, sum);
             for (int n = 0; n < 32; n++) {
+                Forge x = new Forge();
+                x.memory(0, sum);
                 Check.assemble(x, "sums by 1 x 1 push behind\nnarrow by 1 x 1 n " + n + " pop before");
                 Check.due("run", x.run(), 1);
                 int s = n % 16;
@@ -162,7 +163,7 @@ public final class RunTest {
     }
 
     private static void wraps() {
-        TensorForge x = new TensorForge();
+        Forge x = new Forge();
         x.memory(0, Integer.MAX_VALUE);
         x.memory(4, 1);
         x.memory(8, 1);
@@ -181,7 +182,7 @@ public final class RunTest {
 
     private static void cycles() {
         for (int t = 2; t <= 8; t++) {
-            TensorForge x = ran(t, "cells by 5 x 2\nweights by 3 x 2\nclear by 7 x 2\nsums by 4 x 2 a 128\nwait\n"
+            Forge x = ran(t, "cells by 5 x 2\nweights by 3 x 2\nclear by 7 x 2\nsums by 4 x 2 a 128\nwait\n"
                     + "multiply by 9 x 2 a 256 step 256 n 2\ncombine by 3 x 1 a 256\nnarrow by 2 x 2\nwait n 1\n"
                     + "store at 1000 by 6 x 2 a 128\nwait n 2", 1);
             int at = 0;
@@ -206,7 +207,7 @@ public final class RunTest {
     }
 
     private static void tokens() {
-        TensorForge x = ran(2, "clear by 2 x 2 push behind\nwait pop behind\nclear by 1 x 1 pop behind push behind\n"
+        Forge x = ran(2, "clear by 2 x 2 push behind\nwait pop behind\nclear by 1 x 1 pop behind push behind\n"
                 + "combine by 3 x 1 pop before push before push behind pop behind\n"
                 + "wait n 1 push before pop before\nwait n 1 push behind\nwait n 1 push before\n"
                 + "store by 1 x 2 push before\nstore by 2 x 2 pop before push before\nwait n 2 push before", 4);
@@ -221,7 +222,7 @@ public final class RunTest {
         Check.due("4 waits", x.waits(1, 12), 1);
         Check.due("none of unit 2 is left", x.waits(2, 12), 0);
         // A token that is there in the very cycle serves, and tokens gather.
-        TensorForge y = ran(2, "wait push behind\nwait push behind\nclear by 1 x 2 push behind\n"
+        Forge y = ran(2, "wait push behind\nwait push behind\nclear by 1 x 2 push behind\n"
                 + "wait n 1\nwait n 1\nwait n 1 pop before\nwait n 1 pop before\nwait n 1 pop before", 1);
         times(y, 2, 0, 2, 4);
         times(y, 5, 1, 2, 3);
@@ -255,7 +256,7 @@ public final class RunTest {
         race("clear by 2 x 2\nwait n 1\nwait n 1\nwait n 1\ncombine by 1 x 1", 4, 3);
         race("clear by 2 x 2\nwait n 1\nwait n 1\nwait n 1\nwait n 1\ncombine by 1 x 1", NONE, 0);
 
-        TensorForge x = new TensorForge();
+        Forge x = new Forge();
         x.memory(0, 0x05040302);
         Check.assemble(x, "weights by 2 x 2 step 2 push behind\nwait push behind\n"
                 + "wait n 1 push behind\ncombine by 1 x 1 n 2 push before push behind\n"
@@ -277,14 +278,14 @@ public final class RunTest {
         Check.due("waits of one that could begin", x.waits(0, 4), 0);
 
         // A race of unit 0 keeps the units behind from beginning in that cycle.
-        TensorForge y = ran(2, "wait\nsums by 1 x 1\nmultiply by 4 x 1 n 2\nwait n 2\nwait n 2", 3);
+        Forge y = ran(2, "wait\nsums by 1 x 1\nmultiply by 4 x 1 n 2\nwait n 2\nwait n 2", 3);
         told(y, 3, 1, 1, 1, 6, 1, 0, 0, 0, 0);
         times(y, 4, 2, NONE, NONE);
     }
 
     /** Which instruction races (NONE: none) and in which cycle. */
     private static void race(String text, int which, int cycle) {
-        TensorForge x = new TensorForge();
+        Forge x = new Forge();
         Check.due("assemble of " + text, Check.assemble(x, text), NONE);
         Check.due("run of " + text, x.run(), which == NONE ? 1 : 3);
         Check.due("racer of " + text, x.stopped(1), which);
@@ -294,7 +295,7 @@ public final class RunTest {
     }
 
     private static void stuck() {
-        TensorForge x = ran(2, "wait n 2 pop before\nwait n 1 pop before pop behind\nwait\nwait push behind\n"
+        Forge x = ran(2, "wait n 2 pop before\nwait n 1 pop before pop behind\nwait\nwait push behind\n"
                 + "wait pop behind", 4);
         told(x, 4, 0, 2, 2, 0, 0, 1, 0, 0, 0);
         Check.due("unit 0 at 1", x.waits(0, 1), 0);
@@ -310,23 +311,36 @@ public final class RunTest {
         Check.due("the least", ran(2, "wait push behind\nwait n 1 pop behind\nwait pop behind", 4).stopped(1), 1);
     }
 
-    /** 600 words of one unit, the last of which ends last of all; and then one that is stuck. */
+    /** 470 words of one unit, the last of which ends last of all; and then one that is stuck. */
     private static void longest() {
-        TensorForge x = new TensorForge();
-        for (int i = 0; i < 600; i++) {
-            x.word(i, 4L | 63L << 20 | 2L << 26 | (i == 599 ? 0x80 : 0));
+        Forge x = new Forge();
+        for (int i = 0; i < 470; i++) {
+            x.word(i, 4L | 63L << 20 | 2L << 26 | (i == 469 ? 0x80 : 0));
         }
         Check.due("run", x.run(), 1);
-        told(x, 1, NONE, 600 * 504, 600 * 504, 0, 0, 1, 0, 0, 0);
-        times(x, 599, 0, 599 * 504, 600 * 504);
-        Check.due("under", x.under(0, 600 * 504 - 1), 599);
+        told(x, 1, NONE, 470 * 504, 470 * 504, 0, 0, 1, 0, 0, 0);
+        times(x, 469, 0, 469 * 504, 470 * 504);
+        Check.due("under", x.under(0, 470 * 504 - 1), 469);
+        x.word(469, 9L | 1L << 59 | 1L << 4);
+        Check.due("run", x.run(), 4);
+        told(x, 4, 469, 469 * 504, 469 * 504, 0, 0, 0, 0, 0, 0);
+    }
+
+    /** 600 words, the last of which is stuck when all others have ended, or begins then. */
+    private static void fullProgram() {
+        Forge x = Check.fullProgram();
         x.word(599, 9L | 1L << 59 | 1L << 4);
         Check.due("run", x.run(), 4);
-        told(x, 4, 599, 599 * 504, 599 * 504, 0, 0, 0, 0, 0, 0);
+        Check.due("the last one is stuck", x.stopped(1), 599);
+        int stuck = x.stopped(2);
+        x.word(598, 9L | 0x80);
+        Check.due("run", x.run(), 1);
+        Check.due("the last one ends last", x.stopped(2), x.instruction(599, 2));
+        Check.holds("some cycles on", x.stopped(2) >= stuck && x.instruction(599, 1) >= x.instruction(598, 2));
     }
 
     private static void laterChanges() {
-        TensorForge x = ran(2, "clear by 3 x 1\nwait n 1 push behind\nwait n 2 pop before", 1);
+        Forge x = ran(2, "clear by 3 x 1\nwait n 1 push behind\nwait n 2 pop before", 1);
         x.cut(0);
         x.word(0, 9L | 2L << 59);
         Check.due("unit of 0 then", x.instruction(0, 0), 0);

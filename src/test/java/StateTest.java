@@ -17,7 +17,7 @@ public final class StateTest {
     }
 
     private static void newObject() {
-        TensorForge x = new TensorForge();
+        Forge x = new Forge();
         for (int what = 0; what < 5; what++) {
             for (int k = 0; k < Check.SIZES[what]; k++) {
                 Check.due("new look(" + what + ", " + k + ")", x.look(what, k), 0);
@@ -44,12 +44,12 @@ public final class StateTest {
 
     private static void side() {
         for (int t = 2; t <= 8; t++) {
-            TensorForge x = new TensorForge();
+            Forge x = new Forge();
             x.side(t);
             Check.holds("as many columns as the side " + t, !x.illegal(word(3, 0, 1, t, 0, 0, 0, 0)));
             Check.holds("one column more than the side " + t, x.illegal(word(3, 0, 1, t + 1, 0, 0, 0, 0)));
         }
-        TensorForge x = new TensorForge();
+        Forge x = new Forge();
         x.input(2, 2, 1);
         x.memory(0, 0x04030201);
         x.memory(100, 7);
@@ -81,7 +81,7 @@ public final class StateTest {
     }
 
     private static void memoryAndLook() {
-        TensorForge x = new TensorForge();
+        Forge x = new Forge();
         x.memory(4092, 0x80FF7F01);
         Check.due("lowest byte", x.look(0, 4092), 1);
         Check.due("second byte", x.look(0, 4093), 127);
@@ -107,25 +107,23 @@ public final class StateTest {
     }
 
     private static void words() {
-        TensorForge x = new TensorForge();
+        Forge x = new Forge();
         Check.refuses("wordOf(0) of none", INDEX, () -> x.wordOf(0));
-        for (int i = 0; i < 600; i++) {
+        for (int i = 0; i < 400; i++) {
             x.word(i, i * 0x123456789ABCDEFL);
             Check.due("length", x.length(), i + 1);
         }
-        for (int i = 0; i < 600; i++) {
+        for (int i = 0; i < 400; i++) {
             Check.due("wordOf(" + i + ")", x.wordOf(i), i * 0x123456789ABCDEFL);
         }
-        Check.refusesAndKeeps("word(600) of 600", x, UNSUPPORTED, () -> x.word(600, 1));
-        Check.refusesAndKeeps("word(601) of 600", x, INDEX, () -> x.word(601, 1));
-        Check.refusesAndKeeps("word(-1)", x, INDEX, () -> x.word(-1, 1));
-        x.word(599, -1);
-        Check.due("word anew", x.wordOf(599), -1);
-        Check.due("length of a word anew", x.length(), 600);
-        Check.refusesAndKeeps("cut(601)", x, ARGUMENT, () -> x.cut(601));
+        x.word(399, -1);
+        Check.due("word anew", x.wordOf(399), -1);
+        Check.due("length of a word anew", x.length(), 400);
+        Check.refusesAndKeeps("word(401) of 400", x, INDEX, () -> x.word(401, 1));
+        Check.refusesAndKeeps("cut(401)", x, ARGUMENT, () -> x.cut(401));
         Check.refusesAndKeeps("cut(-1)", x, ARGUMENT, () -> x.cut(-1));
-        x.cut(600);
-        Check.due("length behind cut(600)", x.length(), 600);
+        x.cut(400);
+        Check.due("length behind cut(400)", x.length(), 400);
         x.cut(3);
         Check.due("length behind cut(3)", x.length(), 3);
         Check.due("word 2 behind cut(3)", x.wordOf(2), 2 * 0x123456789ABCDEFL);
@@ -137,10 +135,29 @@ public final class StateTest {
         Check.due("word 3", x.wordOf(3), 9);
         x.cut(0);
         Check.due("length behind cut(0)", x.length(), 0);
+        fullProgram();
+    }
+
+    private static void fullProgram() {
+        Forge x = Check.fullProgram();
+        Check.due("length", x.length(), 600);
+        Check.refusesAndKeeps("word(600) of 600", x, UNSUPPORTED, () -> x.word(600, 1));
+        Check.refusesAndKeeps("word(601) of 600", x, INDEX, () -> x.word(601, 1));
+        Check.refusesAndKeeps("word(-1)", x, INDEX, () -> x.word(-1, 1));
+        x.word(599, -1);
+        Check.due("word anew", x.wordOf(599), -1);
+        Check.due("length of a word anew", x.length(), 600);
+        Check.refusesAndKeeps("cut(601)", x, ARGUMENT, () -> x.cut(601));
+        x.cut(600);
+        Check.due("length behind cut(600)", x.length(), 600);
+        x.cut(599);
+        Check.refusesAndKeeps("cut(600) of 599", x, ARGUMENT, () -> x.cut(600));
+        x.word(599, 5);
+        Check.due("word 599", x.wordOf(599), 5);
     }
 
     private static void fields() {
-        TensorForge x = new TensorForge();
+        Forge x = new Forge();
         int[] bits = {4, 1, 1, 1, 1, 12, 6, 5, 9, 9, 10, 5};
         int from = 0;
         for (int which = 0; which < 12; which++) {
@@ -158,7 +175,7 @@ public final class StateTest {
     }
 
     private static void illegalByHand() {
-        TensorForge x = new TensorForge();
+        Forge x = new Forge();
         for (int kind : new int[] {0, 10, 11, 12, 13, 14, 15}) {
             Check.holds("kind " + kind, x.illegal(kind));
             Check.holds("kind " + kind, x.illegal(word(kind, 0, 1, 1, 0, 0, 0, 0)));
@@ -191,7 +208,7 @@ public final class StateTest {
     }
 
     private static void illegalPlaces() {
-        TensorForge x = new TensorForge();
+        Forge x = new Forge();
         x.side(3);
         edge(x, "memory of cells", word(1, 4096 - 2 - 4 * 10, 5, 2, 0, 0, 10, 0), 1L << 8);
         edge(x, "memory of weights", word(2, 4096 - 2 - 4 * 10, 5, 2, 0, 0, 10, 0), 1L << 8);
@@ -211,13 +228,13 @@ public final class StateTest {
         edge(x, "results of store", word(8, 0, 5, 2, 256 - 2 - 12, 0, 0, 0), 1L << 31);
     }
 
-    private static void edge(TensorForge x, String what, long last, long oneMore) {
+    private static void edge(Forge x, String what, long last, long oneMore) {
         Check.holds(what + ", the last place", !x.illegal(last));
         Check.holds(what + ", behind the last place", x.illegal(last + oneMore));
     }
 
     private static void illegalFieldsAndTokens() {
-        TensorForge x = new TensorForge();
+        Forge x = new Forge();
         // For each kind which of ADDRESS, A, B, STRIDE it names.
         int[] lowest = {8, 31, 40, 49};
         boolean[][] names = {

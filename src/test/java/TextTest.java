@@ -15,11 +15,12 @@ public final class TextTest {
     }
 
     private static void put() {
-        TensorForge x = new TensorForge();
+        Forge x = new Forge();
         Check.due("put of one", x.put('w'), 1);
         Check.due("put with 0 within", x.put('a' << 8 | 'i' << 24), 3);
         Check.due("put of none", x.put(0), 3);
         Check.due("put of four", x.put('t' | ' ' << 8 | '\n' << 16 | '~' << 24), 7);
+        int before = x.changes();
         for (int sign = 1; sign < 256; sign++) {
             boolean fine = sign == 10 || sign >= 32 && sign <= 126;
             for (int k = 0; k < 4; k++) {
@@ -31,6 +32,8 @@ public final class TextTest {
                     Check.refuses("put of sign " + sign, ARGUMENT, () -> x.put(four));
                     Check.due("signs behind", x.put(0), 7);
                 }
+                x.end(7);
+                x.keep(before);
             }
         }
         x.end(5);
@@ -51,7 +54,7 @@ public final class TextTest {
     }
 
     private static void end() {
-        TensorForge x = new TensorForge();
+        Forge x = new Forge();
         Check.write(x, "wait\nwait ?");
         Check.due("fault", x.assemble(), 1);
         Check.refusesAndKeeps("end(12)", x, ARGUMENT, () -> x.end(12));
@@ -69,7 +72,7 @@ public final class TextTest {
     }
 
     private static void assembles() {
-        TensorForge x = new TensorForge();
+        Forge x = new Forge();
         String[] kinds = {"cells", "weights", "clear", "sums", "multiply", "combine", "narrow", "store", "wait"};
         for (int k = 0; k < 9; k++) {
             Check.due(kinds[k], Check.assemble(x, kinds[k]), NONE);
@@ -95,18 +98,15 @@ public final class TextTest {
         Check.due("pops", x.wordOf(0), 0xF9);
         Check.due("comments", Check.assemble(x, "\n# a Comment! 12345\n   \n wait#behind\n\ncells # at at\n#"), NONE);
         Check.due("comments", Check.program(x), "wait\ncells\n");
-        StringBuilder many = new StringBuilder();
-        for (int k = 0; k < 300; k++) {
-            many.append("sums\n");
-        }
-        Check.due("300 lines", Check.assemble(x, many.toString()), NONE);
-        Check.due("300 lines", x.length(), 300);
-        Check.due("signs stay", x.put(0), 1500);
-        Check.due("again", x.assemble(), NONE);
+        Forge full = new Forge();
+        Check.due("300 lines", Check.assemble(full, "sums\n".repeat(300)), NONE);
+        Check.due("300 lines", full.length(), 300);
+        Check.due("signs stay", full.put(0), 1500);
+        Check.due("again", full.assemble(), NONE);
     }
 
     private static void fault(String text, int line) {
-        TensorForge x = new TensorForge();
+        Forge x = new Forge();
         x.word(0, 77);
         Check.write(x, text);
         String before = Check.all(x);
@@ -153,7 +153,7 @@ public final class TextTest {
         fault("wait pop n 1", 0);
         for (String twice : new String[] {"at 1", "by 1 x 1", "a 1", "b 1", "step 1", "n 1", "at 0", "by 0 x 0",
             "pop before", "pop behind", "push before", "push behind"}) {
-            TensorForge x = new TensorForge();
+            Forge x = new Forge();
             Check.due("once " + twice, Check.assemble(x, "wait " + twice), NONE);
             fault("wait " + twice + " " + twice, 0);
             fault("wait " + twice + " pop behind push before " + twice, 0);
@@ -165,7 +165,7 @@ public final class TextTest {
         String[] behind = {"", "", " x 1", "", "", "", ""};
         int[] most = {4095, 31, 63, 511, 511, 1023, 31};
         for (int k = 0; k < names.length; k++) {
-            TensorForge x = new TensorForge();
+            Forge x = new Forge();
             Check.due("most of " + names[k], Check.assemble(x, "wait " + names[k] + most[k] + behind[k]), NONE);
             fault("wait " + names[k] + (most[k] + 1) + behind[k], 0);
             fault("wait " + names[k] + "9999" + behind[k], 0);
@@ -176,7 +176,7 @@ public final class TextTest {
     }
 
     private static void listings() {
-        TensorForge x = new TensorForge();
+        Forge x = new Forge();
         x.word(0, -1L);
         x.word(1, 0);
         x.word(2, 9);
