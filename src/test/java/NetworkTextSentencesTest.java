@@ -18,6 +18,7 @@ public final class NetworkTextSentencesTest {
         step();
         edge();
         shiftAndRelu();
+        notToldInTheSamePlace();
         asOfAll();
         tensors();
         names();
@@ -232,6 +233,38 @@ public final class NetworkTextSentencesTest {
         fault("input 5 x 6 x 2 relu", 0);
     }
 
+    private static void notToldInTheSamePlace() {
+        Check.sentence("1 if it isn't told; 0; not: whatever an earlier layer of the same number told");
+        String told = "conv 0 by 3 x 2 outputs 4 at 900 step 2 edge 1 shift 5 relu\n";
+        String[] layers = {"conv 0 by 1 x 1 outputs 2 at 7\n", "pool 0 by 2 x 2\n", "add 0 0\n"};
+        String[] forms = {"5 6 2 60 ", "4 5 2 60 ", "5 6 2 60 "};
+        for (int k = 0; k < 3; k++) {
+            Forge x = new Forge();
+            Forge y = new Forge();
+            for (int turn = 0; turn < 2; turn++) {
+                Check.due("network", Check.network(x, INPUT + told), NONE);
+                y.input(5, 6, 2);
+                Check.due("convolution", y.convolution(0, 32, 4, 21, 21, 900), 1);
+            }
+            for (int turn = 0; turn < 3; turn++) {
+                Check.due("network", Check.network(x, INPUT + layers[k]), NONE);
+                y.input(5, 6, 2);
+                Check.due("by a call", k == 0 ? y.convolution(0, 11, 2, 10, 0, 7) : k == 1 ? y.pool(0, 22, 1)
+                        : y.addition(0, 0, 0), 1);
+                for (Forge one : new Forge[] {x, y}) {
+                    StringBuilder form = new StringBuilder();
+                    for (int what = 0; what < 4; what++) {
+                        form.append(one.form(1, what)).append(' ');
+                    }
+                    Check.due("form of " + layers[k], form.toString(), forms[k]);
+                    Check.due("listing", Check.networkLine(one, 1), layers[k]);
+                }
+            }
+            Check.due("compile", x.compile(), y.compile());
+            Check.due("words", Check.words(x), Check.words(y));
+        }
+    }
+
     private static void asOfAll() {
         Check.sentence("as NAME (of all, input too)");
         fine("input 5 x 6 x 2 as p\nconv p by 1 x 1 outputs 2 at 0 as q\npool q by 1 x 1 as r\nadd r q as s\nadd p s",
@@ -270,7 +303,8 @@ public final class NetworkTextSentencesTest {
         for (String name : new String[] {"a", "z", "ab", "abcdefg", "abcdefgh", "zzzzzzzz", "cells", "n", "b", "pop", "xx"}) {
             fine("input 5 x 6 x 2 as " + name + "\nadd " + name + " " + name, INPUT + "add 0 0\n");
         }
-        for (String name : new String[] {"abcdefghi", "abcdefghij", "A", "aB", "a1", "1a", "a_b", "-", "9"}) {
+        for (String name : new String[] {"abcdefghi", "abcdefghij", "A", "aB", "a1", "1a", "a_b", "-", "9", "a{", "{",
+            "{a", "a`", "`", "`a", "Z", "[", "/", ":", "a?"}) {
             fault("input 5 x 6 x 2 as " + name, 0);
             fault(INPUT + "add 0 0 as " + name, 1);
         }
@@ -307,6 +341,16 @@ public final class NetworkTextSentencesTest {
         Check.due("also with a fault", Check.network(x, "input 5 x 6 x 2 as c\nadd c c as d\n?"), 2);
         Check.due("its names are gone", Check.network(x, INPUT + "add 0 d"), 1);
         Check.due("and can be told", Check.network(x, "input 5 x 6 x 2 as c\nadd c c as d"), NONE);
+        // A line without a name has none, wherever the latest name was told.
+        for (int blanks = 1; blanks < 10; blanks++) {
+            Forge y = new Forge();
+            Check.due("with a name", Check.network(y, "input 5 x 6 x 2 as" + " ".repeat(blanks) + "a"), NONE);
+            Check.due("without one", Check.network(y, INPUT + "add dd dd"), 1);
+            Check.due("without one", Check.network(y, INPUT + "add i i"), 1);
+            Check.due("without one", Check.network(y, INPUT + "add 0 0 as i\nadd i i"), NONE);
+            Check.due("with a name", Check.network(y, "input 5 x 6 x 2 as" + " ".repeat(blanks) + "d"), NONE);
+            Check.due("without one", Check.network(y, INPUT + "add d d"), 1);
+        }
     }
 
     private static void faultLine() {
@@ -453,6 +497,17 @@ public final class NetworkTextSentencesTest {
             Check.due("all behind it", Check.all(x), before);
             Check.due("the next layer", x.pool(3, 11, 1), 4);
         }
+        // So does one that texts made, once and more often.
+        Forge y = new Forge();
+        for (String text : new String[] {"input 2 x 3 x 4\nadd 0 0", "input 4 x 3 x 2\nadd 0 0\npool 1 by 2 x 2"}) {
+            Check.due("network", Check.network(y, text), NONE);
+            for (String wrong : new String[] {"input 1 x 1 x 1\nadd 0 0\nadd 1 1\n?", "input 5 x 5 x 5\n?"}) {
+                Check.write(y, wrong);
+                String before = Check.all(y);
+                Check.due("network", y.network(), wrong.split("\n").length - 1);
+                Check.due("all behind it", Check.all(y), before);
+            }
+        }
     }
 
     private static void networkSigns() {
@@ -510,6 +565,28 @@ public final class NetworkTextSentencesTest {
         places(placed("input 2 x 2 x 5\nadd 0 0", 40), 0, 20);
         places(placed("input 2 x 2 x 5\nadd 0 0\nadd 1 1", 40), 0, 20, 0);
         places(placed("input 2 x 2 x 5\nadd 0 0\nadd 1 1\nadd 2 2\nadd 3 3", 40), 0, 20, 0, 20, 0);
+        // Layers that are gone, or were refused, need nothing.
+        Forge gone = new Forge();
+        gone.input(2, 2, 5);
+        gone.addition(0, 0, 0);
+        gone.addition(1, 1, 0);
+        gone.addition(2, 0, 0);
+        gone.addition(0, 1, 0);
+        gone.input(2, 2, 5);
+        gone.addition(0, 0, 0);
+        gone.addition(1, 1, 0);
+        Check.refuses("a layer of the input", IllegalArgumentException.class, () -> gone.pool(0, 11, 4));
+        Check.due("place", gone.place(), 40);
+        places(gone, 0, 20, 0);
+        // And one that takes nothing more isn't kept for them.
+        gone.input(2, 2, 5);
+        gone.addition(0, 0, 0);
+        gone.addition(0, 0, 0);
+        Check.refuses("a layer of the first", IllegalArgumentException.class, () -> gone.addition(1, 1, 32));
+        gone.addition(2, 2, 0);
+        Check.refuses("a layer of the first", IllegalArgumentException.class, () -> gone.addition(1, 1, 32));
+        Check.due("place", gone.place(), 60);
+        places(gone, 0, 20, 40, 0);
         // Twice gives the same.
         Forge x = placed("input 2 x 2 x 5\nadd 0 0\nadd 1 1\nadd 2 2", 40);
         Check.due("again", x.place(), 40);

@@ -591,6 +591,15 @@ public final class RunSentencesTest {
         for (int cycle = 0; cycle < 4; cycle++) {
             Check.due("cycle " + cycle, z.waits(1, cycle), due[cycle]);
         }
+        // Nor those that the very first instruction took; and the last one's push counts.
+        Forge w = ran(2, STUCK, "wait n 1 pop before", "wait n 1 pop before", "wait push behind");
+        for (int cycle = 0; cycle < 4; cycle++) {
+            Check.due("cycle " + cycle, w.waits(1, cycle), due[cycle]);
+        }
+        Forge v = ran(2, STUCK, "wait pop behind", "wait pop behind", "wait n 1 push before");
+        for (int cycle = 0; cycle < 4; cycle++) {
+            Check.due("cycle " + cycle, v.waits(0, cycle), 2 * due[cycle]);
+        }
     }
 
     private static void waitsBehindTheEnd() {
@@ -623,6 +632,23 @@ public final class RunSentencesTest {
         Forge y = ran(2, DONE);
         for (int unit = 0; unit < 3; unit++) {
             Check.due("of an empty run", y.waits(unit, 0), 0);
+        }
+        // What a longer program left there in an earlier run doesn't count.
+        Forge again = ran(2, STUCK, "wait", "wait n 1 pop before pop behind", "wait pop behind", "wait n 2 pop before");
+        Check.due("unit 1 waits", again.waits(1, 0), 3);
+        again.cut(1);
+        Check.due("run", again.run(), DONE);
+        for (int unit = 0; unit < 3; unit++) {
+            Check.due("none of unit " + unit + " is left", again.waits(unit, 0), 0);
+            Check.due("none of unit " + unit + " is left", again.waits(unit, 9), 0);
+            Check.due("under", again.under(unit, 0), unit == 0 ? 0 : NONE);
+        }
+        Forge full = Check.fullProgram();
+        Check.due("run", full.run(), DONE);
+        for (int unit = 0; unit < 3; unit++) {
+            Check.due("at first, of 600 words", full.waits(unit, 0), unit == 0 ? 0 : 1);
+            Check.due("none of unit " + unit + " is left", full.waits(unit, full.stopped(2)), 0);
+            Check.due("under", full.under(unit, full.stopped(2)), NONE);
         }
         // While an instruction is under way the next one's tokens don't count.
         Forge z = ran(2, STUCK, "clear by 2 x 1", "wait pop behind");

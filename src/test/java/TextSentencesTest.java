@@ -67,6 +67,13 @@ public final class TextSentencesTest {
         Check.due("assemble of 1500 signs", x.assemble(), NONE);
         Check.due("its word", Check.words(x), "9 \n");
         Check.refuses("one more", UNSUPPORTED, () -> x.put(' '));
+        for (String last : new String[] {"wait n 1", "wait pop before", "wait n 1 ", "wait #", "wait n 1\n"}) {
+            Forge y = new Forge();
+            Check.append(y, "\n".repeat(1500 - last.length()) + last);
+            Check.due("signs", y.put(0), 1500);
+            Check.due("assemble", y.assemble(), NONE);
+            Check.due("its word", y.wordOf(0), Word.of(last.replace(" #", "").trim()));
+        }
         StringBuilder all = new StringBuilder("wait #");
         for (char sign = 32; sign < 127; sign++) {
             all.append(sign);
@@ -364,6 +371,23 @@ public final class TextSentencesTest {
                     Check.refusesAndKeeps(more + " more of " + left, x, UNSUPPORTED, () -> x.put(high));
                 }
             }
+            for (int sign : new int[] {10, 32, 33, 97, 126}) {
+                for (int byteAt = 0; byteAt < 32; byteAt += 8) {
+                    int four = sign << byteAt;
+                    if (left > 0) {
+                        Check.due("sign " + sign + ", byte " + byteAt / 8, x.twin().put(four), 1501 - left);
+                    } else {
+                        Check.refusesAndKeeps("sign " + sign + ", byte " + byteAt / 8, x, UNSUPPORTED, () -> x.put(four));
+                    }
+                }
+            }
+            int apart = '!' | 'a' << 16;
+            if (left == 2) {
+                Check.due("two with nothing between", x.twin().put(apart), 1500);
+            }
+            if (left == 1) {
+                Check.refusesAndKeeps("two with nothing between", x, UNSUPPORTED, () -> x.put(apart));
+            }
         }
     }
 
@@ -378,6 +402,17 @@ public final class TextSentencesTest {
             int due = n == 0 ? NONE : n < 4 ? 0 : n == 4 || n == 5 ? NONE : n == 6 || n == 7 ? 0 : n < 10 ? NONE
                     : n < 13 ? 1 : n < 15 ? NONE : n < 17 ? 1 : NONE;
             Check.due("assemble of " + text.substring(0, n), x.assemble(), due);
+        }
+        // What was behind its end isn't read.
+        String[][] cuts = {{"wait n 12", "8", "wait n 1"}, {"waits", "4", "wait"}, {"wait n 1 n 2", "8", "wait n 1"},
+            {"wait #", "5", "wait"}, {"wait n 1#", "8", "wait n 1"}, {"wait pop beforex", "15", "wait pop before"},
+            {"wait n 3\n?", "8", "wait n 3"}, {"wait n 3\n?", "9", "wait n 3"}};
+        for (String[] row : cuts) {
+            Forge x = new Forge();
+            Check.append(x, row[0]);
+            x.end(Integer.parseInt(row[1]));
+            Check.due("assemble of " + row[2], x.assemble(), NONE);
+            Check.due("words of " + row[2], Check.words(x), Word.of(row[2]) + " \n");
         }
         Forge x = new Forge();
         Check.append(x, "wait ??");
@@ -435,6 +470,13 @@ public final class TextSentencesTest {
             Check.due("assemble of " + text, x.assemble(), text.split("\n", -1).length - 1);
             Check.due("all behind it", Check.all(x), before);
         }
+        // So does one that the compiler made.
+        x.pool(0, 11, 1);
+        x.compile();
+        Check.write(x, "store\nstore\n?");
+        String before = Check.all(x);
+        Check.due("assemble", x.assemble(), 2);
+        Check.due("all behind it", Check.all(x), before);
     }
 
     private static void listingSigns() {
