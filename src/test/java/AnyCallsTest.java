@@ -4,6 +4,7 @@ import java.util.ArrayList;
 import java.util.Arrays;
 import java.util.Comparator;
 import java.util.Random;
+import java.util.Set;
 
 /** All promises: any calls in any order throw nothing but what the call names, and then change nothing. */
 public final class AnyCallsTest {
@@ -36,7 +37,7 @@ public final class AnyCallsTest {
                     continue;
                 }
                 Method call = open.get(random.nextInt(open.size()));
-                Object[] given = given(random, call, x);
+                Object[] given = given(random, call, x.length());
                 boolean look = random.nextInt(40) == 0;
                 String before = look ? Check.all(x) : "";
                 try {
@@ -56,10 +57,49 @@ public final class AnyCallsTest {
             }
         }
         Check.holds("some calls threw", thrown > 10000);
+        for (int turn = 0; turn < 1500; turn++) {
+            askingChangesNothing(open, random);
+        }
         Check.finish();
     }
 
-    private static Object[] given(Random random, Method call, Forge x) {
+    private static final Set<String> ASKING = Set.of("look", "wordOf", "length", "field", "illegal", "listing", "stopped",
+            "instruction", "form", "networkSign", "under", "waits");
+
+    private static String answer(TensorForge x, Method call, Object[] given) throws IllegalAccessException {
+        try {
+            return String.valueOf(call.invoke(x, given));
+        } catch (InvocationTargetException e) {
+            return e.getCause().getClass().getName();
+        }
+    }
+
+    /** Two objects with the same calls, but that one is asked more in between, answer the same. */
+    private static void askingChangesNothing(ArrayList<Method> open, Random random) throws IllegalAccessException {
+        TensorForge one = new TensorForge();
+        TensorForge other = new TensorForge();
+        String text = TEXTS[random.nextInt(TEXTS.length)];
+        int put = 0;
+        for (int k = 0; k < 500; k++) {
+            Method call = open.get(random.nextInt(open.size()));
+            boolean asks = ASKING.contains(call.getName());
+            Object[] given = given(random, call, call.getName().equals("word") ? one.length() : 0);
+            if (call.getName().equals("word")) {
+                k++;
+            }
+            if (call.getName().equals("put") && random.nextInt(8) > 0) {
+                // The text goes on where it was, and begins again behind its end.
+                given[0] = put < text.length() ? (int) text.charAt(put) : (int) '\n';
+                put = put < text.length() ? put + 1 : 0;
+            }
+            String got = answer(one, call, given);
+            if (!asks || k > 350) {
+                Check.due(call.getName() + Arrays.toString(given), answer(other, call, given), got);
+            }
+        }
+    }
+
+    private static Object[] given(Random random, Method call, int length) {
         Class<?>[] types = call.getParameterTypes();
         Object[] given = new Object[types.length];
         for (int k = 0; k < types.length; k++) {
@@ -81,7 +121,7 @@ public final class AnyCallsTest {
             return new Object[] {random.nextInt(4), 11 + 10 * random.nextInt(2), 1 + random.nextInt(3)};
         }
         if (name.equals("word") && random.nextBoolean()) {
-            given[0] = x.length();
+            given[0] = length;
         }
         return given;
     }
