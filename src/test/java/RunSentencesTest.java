@@ -104,6 +104,39 @@ public final class RunSentencesTest {
         x.word(599, Word.of("wait n 3"));
         Check.due("run", x.run(), ILLEGAL);
         Check.due("the last one", x.stopped(1), 599);
+        eachEndsInAnotherCycle();
+    }
+
+    /**
+     * 600 words of which no two end in the same cycle: unit 0's come behind one that takes long, and while that is under
+     * way unit 1 pushes the tokens that they pop.
+     */
+    private static void eachEndsInAnotherCycle() {
+        Forge x = Check.fullProgram();
+        x.word(0, Word.of("sums by 63 x 2"));
+        int pushes = 0;
+        for (int i = 1; i < 600; i++) {
+            long kind = x.field(x.wordOf(i), 0);
+            if (kind != 1) {
+                x.word(i, Word.of(pushes < 236 ? "wait n 1 push before" : "wait"));
+                pushes += pushes < 236 ? 1 : 0;
+            }
+        }
+        Check.due("run", x.run(), DONE);
+        Check.due("the end", x.stopped(2), 504 + 600 - 236 - 1);
+        Check.due("unit 0", x.stopped(3), 504 + 600 - 236 - 1);
+        Check.due("unit 1", x.stopped(4), 236);
+        boolean[] ends = new boolean[2000];
+        for (int i = 0; i < 600; i++) {
+            int end = x.instruction(i, 2);
+            Check.holds("the end of " + i + " is another one", !ends[end]);
+            ends[end] = true;
+        }
+        int last = 599;
+        while (x.instruction(last, 0) != 0) {
+            last--;
+        }
+        times(x, last, 504 + 600 - 236 - 2, 504 + 600 - 236 - 1);
     }
 
     private static void queues() {
